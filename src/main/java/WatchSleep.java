@@ -1017,7 +1017,7 @@ public final class WatchSleep {
             int left = asleep - (w.n - many);
             above = 0;
             below = 1;
-            // The least worths are held by a chance of 1 first: as soon as the next one would not be, the rest is shared.
+            // The least worths come to a chance of 1 first: as soon as the next one does not, the rest is shared.
             for (int sure = 0; sure < left && sure < many; sure++) {
                 share(left - sure, sure);
                 if (above <= worths[sure] * below) {
@@ -1096,7 +1096,7 @@ public final class WatchSleep {
             return least;
         }
 
-        /** Whether a by b is less than c by d: their products may be too large, so the whole parts are told off in turn. */
+        /** Whether a by b is less than c by d: products may be too large, so whole parts are compared in turn. */
         private static boolean isLess(long a, long b, long c, long d) {
             long a1 = a;
             long b1 = b;
@@ -1493,36 +1493,31 @@ public final class WatchSleep {
             return true;
         }
 
-        /** A ROUND is the same again after n hours, so later ones tell nothing new. */
+        /** The hour in which the last pair but one is told from THE CAPTAIN's. */
         static int firstHourOfOne(Watch w, int post) {
+            int alike = 0;
+            int latest = 0;
+            for (int start = 0; start < w.n; start++) {
+                for (int step = 0; step < w.n; step++) {
+                    int unlike = firstUnlike(w, post, start, step);
+                    if (unlike == NONE) {
+                        alike++;
+                    }
+                    latest = Math.max(latest, unlike);
+                }
+            }
+            return alike == 1 ? latest : NONE;
+        }
+
+        /** A ROUND is the same again after n hours, so later ones tell nothing new. */
+        private static int firstUnlike(Watch w, int post, int start, int step) {
             for (int hour = 0; hour < w.n; hour++) {
-                if (likePairs(w, post, hour) == 1) {
+                boolean there = Captain.turn(w.n, start, step, hour) == post;
+                if (there != (Captain.inTurn(w, hour) == post)) {
                     return hour;
                 }
             }
             return NONE;
-        }
-
-        private static int likePairs(Watch w, int post, int lastHour) {
-            int many = 0;
-            for (int start = 0; start < w.n; start++) {
-                for (int step = 0; step < w.n; step++) {
-                    if (looksLike(w, post, lastHour, start, step)) {
-                        many++;
-                    }
-                }
-            }
-            return many;
-        }
-
-        private static boolean looksLike(Watch w, int post, int lastHour, int start, int step) {
-            for (int hour = 0; hour <= lastHour; hour++) {
-                boolean there = Captain.turn(w.n, start, step, hour) == post;
-                if (there != (Captain.inTurn(w, hour) == post)) {
-                    return false;
-                }
-            }
-            return true;
         }
     }
 }

@@ -606,6 +606,9 @@ public final class PromiseTest {
         BigInteger above = BigInteger.valueOf(99).pow(10);
         BigInteger below = BigInteger.valueOf(197).pow(9);
         due.fraction("ladder of large ones", x, above, below);
+        x = wall(row(1, 99, 1, 1, 1, 1, 1, 1, 1), row(99, 99, 99, 99, 99, 99, 99, 99, 99));
+        x.ladder(9);
+        due.fraction("ladder in lowest terms", x, "11", "43046721");
         x = wall(row(99, 99), row(99, 0));
         x.ladder(9);
         due.fraction("a sure ladder", x, "99", "1");
@@ -727,6 +730,13 @@ public final class PromiseTest {
         due.is("duke(1)", x.duke(1), 1);
         due.is("duke(3)", x.duke(3), 3);
         due.fraction("duke leaves the fraction", x, "0", "1");
+        x = wall(row(3, 4), row(1, 1));
+        // BEST: 12/7, 4
+        due.is("duke: 3 5/7, 4", x.duke(2), 1);
+        due.is("duke: 4 5/7, 4", x.duke(3), 2);
+        x = wall(row(2, 3, 5), row(1, 1, 1));
+        // BEST: 30/31, 60/31, 5
+        due.is("duke: 2 30/31, 2 29/31, 5", x.duke(1), 2);
         x.posts(1);
         due.is("duke of one", x.duke(99), 1);
         due.is("duke(-1)", x.duke(-1), -2);
@@ -1031,6 +1041,13 @@ public final class PromiseTest {
         BigInteger common = BigInteger.valueOf(2).pow(40);
         due.fraction("doubt of large ones", large, BigInteger.valueOf(98).pow(40).divide(common),
             BigInteger.valueOf(890).pow(40).divide(common));
+        // Of 40 all, or all but one of 40: 98^40 + 40 * 98^39 * 792 by 890^40.
+        large.thefts(1, 39, 40);
+        large.doubt(1);
+        BigInteger above = BigInteger.valueOf(40 * 792 + 98).multiply(BigInteger.valueOf(98).pow(39));
+        BigInteger below = BigInteger.valueOf(890).pow(40);
+        common = above.gcd(below);
+        due.fraction("doubt of two terms", large, above.divide(common), below.divide(common));
         due.is("doubt(-1)", x.doubt(-1), -2);
         due.is("doubt(3)", x.doubt(3), -2);
         due.is("doubt(max)", x.doubt(MAX), -2);
@@ -1149,9 +1166,14 @@ public final class PromiseTest {
         x.posts(9);
         due.is("from(1)", x.from(1), 1);
         same("from(1)", x, kept);
-        x.erase();
+        Due.write(x, "n-h/2");
         x.forget();
+        x.tell(3);
+        x.tell(0);
+        x.tell(0);
         x.blind();
+        x.sight(8, 2, 0);
+        x.sight(7, 0, 0);
         due.is("from(0)", x.from(0), 1);
         same("from(0)", x, other);
         due.is("from(1) again", x.from(1), 1);
