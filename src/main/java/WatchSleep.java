@@ -726,7 +726,7 @@ public final class WatchSleep {
             int rank = rankOf(sign);
             if (sign == ')' && open > 0) {
                 release(1);
-                waits--;
+                waits = Math.max(0, waits - 1);
                 open--;
             } else if (rank < 1 || rank == RANK_OF_ONE) {
                 flaw = 10 * at + CAN_NOT_STAND;

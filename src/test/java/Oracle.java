@@ -6,7 +6,7 @@ import java.util.regex.Matcher;
 import java.util.regex.Pattern;
 
 /** The document's face again, worked in the plainest way, however slow; for comparing alone. */
-final class Oracle implements Cloneable {
+final class Oracle {
     private static final BigInteger ONE = BigInteger.ONE, ZERO = BigInteger.ZERO;
 
     /** A fraction in lowest terms. */
@@ -57,7 +57,7 @@ final class Oracle implements Cloneable {
         }
     }
 
-    static final class Post implements Cloneable {
+    static final class Post {
         int worth = 10, share = 1, need, done, tried;
 
         Post twin() {
