@@ -1,8 +1,15 @@
+import java.io.IOException;
 import java.math.BigInteger;
+import java.nio.file.Files;
+import java.nio.file.Paths;
 
 /** Counts and prints the answers that are not the ones that are due. */
 final class Due {
+    private static final String DOCUMENT = "../shared/DOC.md";
+
     private final String test;
+    private String sentence = "";
+    private String document;
     private int checks;
     private int wrong;
 
@@ -15,13 +22,34 @@ final class Due {
         if (got != want) {
             wrong++;
             if (wrong <= 50) {
-                System.out.println(test + ": " + what + " answered " + got + ", due is " + want);
+                System.out.println(test + ": " + sentence + what + " answered " + got + ", due is " + want);
             }
         }
     }
 
     void isTrue(String what, boolean so) {
         is(what, so ? 1 : 0, 1);
+    }
+
+    /** What comes next tests these words of the document, which have to stand there so. */
+    void says(String words) {
+        sentence = "\"" + words + "\": ";
+        isTrue("stands in the document", document().contains(flat(words)));
+    }
+
+    private String document() {
+        if (document == null) {
+            try {
+                document = flat(new String(Files.readAllBytes(Paths.get(DOCUMENT)), "UTF-8"));
+            } catch (IOException e) {
+                document = "";
+            }
+        }
+        return document;
+    }
+
+    private static String flat(String text) {
+        return text.replaceAll("\\s+", " ");
     }
 
     /** THE FRACTION, by sign() and limb(). */
