@@ -72,6 +72,15 @@ final class Due {
         is(what + ", behind the limbs", x.limb(which, many), -1);
     }
 
+    /** Of THE FRACTION what is above (0), below (1). */
+    static BigInteger number(WatchSleep x, int which) {
+        BigInteger v = BigInteger.ZERO;
+        for (int i = x.sign(1 + which) - 1; i >= 0; i--) {
+            v = v.shiftLeft(30).add(BigInteger.valueOf(x.limb(which, i)));
+        }
+        return v;
+    }
+
     void end() {
         System.out.println(test + ": " + checks + " answers, " + wrong + " not as due");
         if (wrong != 0) {

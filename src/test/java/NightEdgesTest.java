@@ -3,6 +3,7 @@ import java.util.ArrayList;
 import java.util.Arrays;
 import java.util.HashSet;
 import java.util.List;
+import java.util.Random;
 import java.util.Set;
 
 /** Nights, and what was seen, at the edges that the document's words name. */
@@ -26,6 +27,7 @@ public final class NightEdgesTest {
         thefts();
         doubt();
         spy();
+        spyByDoubt();
         due.end();
     }
 
@@ -49,6 +51,7 @@ public final class NightEdgesTest {
         Scene.idle(due, "6 and 6", () -> needing(6, 6), x -> x.nights(), 2);
         Scene.idle(due, "12 of 9", () -> needing(1, 1, 1, 1, 1, 1, 1, 1, 4), x -> x.nights(), 362880);
         Scene.idle(due, "9 of 9, the most there can be", () -> needing(1, 1, 1, 1, 1, 1, 1, 1, 1), x -> x.nights(), 79833600);
+        due.says("NIGHTS. NO.");
         Scene.refused(due, "12 and 1", () -> needing(12, 1), x -> x.nights(), -3, Scene.AS_NO);
         Scene.refused(due, "6 and 7", () -> needing(6, 7), x -> x.nights(), -3, Scene.AS_NO);
         Scene.refused(due, "13 of 9", () -> needing(1, 1, 1, 1, 1, 1, 1, 1, 5), x -> x.nights(), -3, Scene.AS_NO);
@@ -194,6 +197,7 @@ public final class NightEdgesTest {
         Scene.idle(due, "all 12 of one", () -> told("000000000000", 12, 0), x -> x.judge(), -1);
         Scene.idle(due, "as many HOURS of nobody as there may be", () -> told("-------", 2, 3), x -> x.judge(), -1);
         Scene.idle(due, "one more", () -> told("--------", 2, 3), x -> x.judge(), 7);
+        due.says("JUDGE. NONE.");
         Scene.idle(due, "wrong in HOUR 0", () -> told("1", 2, 0), x -> x.judge(), 0);
         Scene.idle(due, "wrong in HOUR 11", () -> told("-----------0", 0, 0), x -> x.judge(), 11);
         Scene.idle(due, "too short by the last HOUR", () -> told("---------00-", 3, 0), x -> x.judge(), 11);
@@ -492,5 +496,45 @@ public final class NightEdgesTest {
         x.thefts(0, 1, 40);
         due.is("no SHARE and a THEFT: 0", x.spy(), 0);
         due.fraction("no SHARE and a THEFT", x, "0", "1");
+    }
+
+    /** The least of what doubt() tells, on one object by turns for large and small numbers. */
+    private static void spyByDoubt() {
+        due.says("SPY; its DOUBT is THE FRACTION. NO.");
+        Random random = new Random(9);
+        for (int run = 0; run < 300; run++) {
+            WatchSleep x = new WatchSleep();
+            int n = 2 + random.nextInt(2);
+            x.posts(n);
+            for (int k = 0; k < 3; k++) {
+                for (int p = 0; p < n; p++) {
+                    x.put(p, 1, 1 + random.nextInt(random.nextBoolean() ? 99 : 5));
+                    int tried = random.nextInt(41);
+                    x.thefts(p, random.nextInt(tried + 1), tried);
+                }
+                spyIsTheLeast(x, n);
+            }
+        }
+    }
+
+    private static void spyIsTheLeast(WatchSleep x, int n) {
+        int spy = x.spy();
+        BigInteger above = Due.number(x, 0);
+        BigInteger below = Due.number(x, 1);
+        int least = 0;
+        BigInteger up = null;
+        BigInteger down = null;
+        for (int p = 0; p < n; p++) {
+            x.doubt(p);
+            BigInteger a = Due.number(x, 0);
+            BigInteger b = Due.number(x, 1);
+            if (p == 0 || a.multiply(down).compareTo(up.multiply(b)) < 0) {
+                least = p;
+                up = a;
+                down = b;
+            }
+        }
+        due.is("spy()", spy, least);
+        due.isTrue("its DOUBT", above.equals(up) && below.equals(down));
     }
 }

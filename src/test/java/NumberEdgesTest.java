@@ -85,6 +85,8 @@ public final class NumberEdgesTest {
             (x, a) -> x.captain((int) a[0], (int) a[1], (int) a[2], (int) a[3]), 0, 4, 0, n - 1, 0, 9, 0, 999999));
         calls.add(new Call("X is SEED (0 .. 999999) at first", "captain's SEED", -2,
             (x, a) -> x.captain(2, n - 1, 9, (int) a[0]), 0, 999999));
+        calls.add(new Call("THE CAPTAIN: who sleeps in an HOUR (what = 0), where the lantern is moved (1). BAD; NO.", "asleep's what", -2,
+            (x, a) -> x.asleep(0, (int) a[0]), 0, 1));
         calls.add(new Call("tells who sleeps in HOUR h (0 .. 999)", "asleep", -2, (x, a) -> x.asleep((int) a[0], (int) a[1]),
             0, 999, 0, 1));
     }
@@ -93,9 +95,13 @@ public final class NumberEdgesTest {
         calls.add(new Call("HAS of a POST is THE FRACTION: 1. BAD; NO.", "has", -2, (x, a) -> x.has((int) a[0]), 0, n - 1));
         calls.add(new Call("LADDER of L HOURS (1 .. 9)", "ladder", -2, (x, a) -> x.ladder((int) a[0]), 1, 9));
         calls.add(new Call("BEST for a asleep (1 .. n) at once", "best", -2, (x, a) -> x.best((int) a[0]), 1, n));
+        calls.add(new Call("BEST is THE FRACTION: 1. BAD.", "best", -2, (x, a) -> x.best((int) a[0]), 1, n));
         calls.add(new Call("CHANCE of a POST is THE FRACTION: 1. BAD.", "chance", -2,
             (x, a) -> x.chance((int) a[0], (int) a[1]), 1, n, 0, n - 1));
         calls.add(new Call("PAY (0 .. 99) for each who does not sleep", "duke", -2, (x, a) -> x.duke((int) a[0]), 0, 99));
+        calls.add(new Call("DUKE. BAD.", "duke", -2, (x, a) -> x.duke((int) a[0]), 0, 99));
+        calls.add(new Call("CREAK is THE FRACTION: 1. BAD; NO.", "creak's POSTS", -2, (x, a) -> x.creak((int) a[0], 10, 10),
+            0, (1 << n) - 1));
         calls.add(new Call("by v of 10: 0 .. 10)", "creak", -2, (x, a) -> x.creak((int) a[0], (int) a[1], (int) a[2]),
             0, (1 << n) - 1, 0, 10, 0, 10));
     }
@@ -121,6 +127,7 @@ public final class NumberEdgesTest {
         calls.add(new Call(thefts, "0 thefts of TRIED", -2, (x, a) -> x.thefts(0, 0, (int) a[0]), 0, 40));
         calls.add(new Call(thefts, "7 thefts of TRIED", -2, (x, a) -> x.thefts(0, 7, (int) a[0]), 7, 40));
         calls.add(new Call(thefts, "40 thefts of TRIED", -2, (x, a) -> x.thefts(0, 40, (int) a[0]), 40, 40));
+        calls.add(new Call("THEFTS, TRIED of a POST: 1. BAD.", "a POST's thefts", -2, (x, a) -> x.thefts((int) a[0], 40, 40), 0, n - 1));
         calls.add(new Call("DOUBT is THE FRACTION: 1. BAD; NO.", "doubt", -2, (x, a) -> x.doubt((int) a[0]), 0, n - 1));
     }
 

@@ -49,6 +49,7 @@ final class Oracle {
     }
 
     private static final class Fault extends RuntimeException {
+        private static final long serialVersionUID = 1;
         final int code;
 
         Fault(int code) {
@@ -580,18 +581,16 @@ final class Oracle {
         Q least = null;
         List<Q> candidates = new ArrayList<>();
         candidates.add(Q.of(0, 1));
-        for (int sure = 0; sure < 1 << n(); sure++) {
-            Q inverses = Q.of(0, 1);
-            boolean fits = true;
-            for (int p = 0; p < n(); p++) {
-                if ((sure >> p & 1) == 0) {
-                    fits &= s.posts.get(p).worth > 0;
-                    inverses = fits ? inverses.plus(Q.of(1, s.posts.get(p).worth)) : inverses;
-                }
-            }
-            int rest = a - Integer.bitCount(sure);
-            if (fits && rest >= 0 && inverses.a.signum() > 0) {
-                candidates.add(Q.of(rest, 1).by(inverses));
+        // For each set of posts its inverses together; null, if one is worthless.
+        Q[] inverses = new Q[1 << n()];
+        inverses[0] = Q.of(0, 1);
+        for (int unsure = 1; unsure < 1 << n(); unsure++) {
+            int worth = s.posts.get(Integer.numberOfTrailingZeros(unsure)).worth;
+            Q others = inverses[unsure & unsure - 1];
+            inverses[unsure] = others == null || worth == 0 ? null : others.plus(Q.of(1, worth));
+            int rest = a - (n() - Integer.bitCount(unsure));
+            if (inverses[unsure] != null && rest >= 0) {
+                candidates.add(Q.of(rest, 1).by(inverses[unsure]));
             }
         }
         for (Post p : s.posts) {

@@ -6,7 +6,9 @@ public final class RuleEdgesTest {
 
     public static void main(String[] args) {
         length();
+        longest();
         empty();
+        oneAfterAnother();
         digits();
         brackets();
         everyCharacter();
@@ -26,6 +28,7 @@ public final class RuleEdgesTest {
         noShares();
         turns();
         behind();
+        shownAsLot();
         lazy();
         lanterns();
         due.end();
@@ -75,6 +78,51 @@ public final class RuleEdgesTest {
         due.is("erase() of an empty one", x.erase(), 0);
         due.is("write after erase()", x.write('1'), 1);
         due.is("count(4)", x.count(4), 1);
+    }
+
+    /** As many signs, and as much that waits for a UNIT, as 40 characters can hold. */
+    private static void longest() {
+        due.says("THE RULE is a TEXT (40 characters at most)");
+        sleeps(9, "-".repeat(39) + "1", 0, 8);
+        sleeps(9, "-".repeat(38) + "1 ", 0, 1);
+        sleeps(9, "!".repeat(39) + "5", 0, 0);
+        sleeps(9, "!".repeat(38) + "5 ", 0, 1);
+        // 2 and 3 times (2 and 3 times (2 and 3 times 1)) is 2, 6, 18, 27 together.
+        sleeps(7, "2+3*(2+3*(2+3*(1)))", 0, 53 % 7);
+        sleeps(7, "1-(1-(1-(1-(1-(1-(1-(1-(5))))))))", 0, 5);
+        sleeps(7, "0|0&0<0+0*(0|0&0<0+0*(0|0&0<0+0*(0|0)))", 0, 0);
+        sleeps(7, "0|1&2<3+1*(0|1&2<3+1*(0|1&2<3+1*(0|1)))", 0, 1);
+        sleeps(9, "5+1*(5+1*(5+1*(5+1*(5+1*(5+1*(5+4))))))", 0, 39 % 9);
+    }
+
+    /** What an earlier RULE left behind does not tell in a later one. */
+    private static void oneAfterAnother() {
+        due.says("It is empty: how many.");
+        String[] faults = {"((((((((", "-(", "!-!(", "1+(2*(", "(1|(2&(3<", "1234567", "(((((((((", "-", "1<2<", "((((((((!-!-!-!-!-!-!-!-!-!-"};
+        WatchSleep x = ruled(9, "");
+        for (String fault : faults) {
+            Due.write(x, fault);
+            due.isTrue("a FAULT of '" + fault + "'", x.fault() > 0);
+            Due.write(x, "5");
+            due.is("5 behind '" + fault + "'", x.asleep(0, 0), 5);
+            Due.write(x, "((((5))))+1");
+            due.is("6 behind '" + fault + "'", x.asleep(0, 0), 6);
+        }
+        x = ruled(9, "");
+        for (int k = 0; k < 8; k++) {
+            Due.write(x, "((((((((");
+            due.is("8 of ( open, once more", x.fault(), 81);
+            Due.write(x, "5+1");
+            due.is("6 behind them", x.asleep(0, 0), 6);
+        }
+        x = ruled(9, "");
+        String[] rules = {"-5", "5", "!5", "7", "l+1", "h", "1|0", "4", "2*(1+(1+1))", "8"};
+        int[] wants = {4, 5, 0, 7, 1, 0, 1, 4, 6, 8};
+        for (int i = 0; i < rules.length; i++) {
+            Due.write(x, rules[i]);
+            due.is("'" + rules[i] + "' in its turn", x.asleep(0, 0), wants[i]);
+            due.is("'" + rules[i] + "' has no FAULT", x.fault(), -1);
+        }
     }
 
     private static void empty() {
@@ -251,6 +299,10 @@ public final class RuleEdgesTest {
             due.is("n of " + n, x.asleep(0, 0), 0);
             Due.write(x, "n-1");
             due.is("n - 1 of " + n, x.asleep(0, 0), n - 1);
+            Due.write(x, "n/2");
+            due.is("n / 2 of " + n, x.asleep(0, 0), n / 2 % n);
+            Due.write(x, "n>8");
+            due.is("n > 8 of " + n, x.asleep(0, 0), n == 9 ? 1 : 0);
             x.captain(2, n - 1, 9, 0);
             Due.write(x, "s");
             due.is("s of " + n, x.asleep(999, 0), n - 1);
@@ -270,6 +322,18 @@ public final class RuleEdgesTest {
         for (String rule : yes) {
             sleeps(9, rule, 0, 1);
         }
+        // Of those in brackets it is a truth as well.
+        sleeps(9, "(1|0)", 0, 1);
+        sleeps(9, "(0|5)+3", 0, 4);
+        sleeps(9, "(7&5)+3", 0, 4);
+        sleeps(9, "3+(2<3)*4", 0, 7);
+        sleeps(9, "2*(0|0|9)", 0, 2);
+        // & ahead of |, sums ahead of both.
+        sleeps(9, "1|1&0", 0, 1);
+        sleeps(9, "0&0|1", 0, 1);
+        sleeps(9, "0&(0|1)", 0, 0);
+        sleeps(9, "1-1|0", 0, 0);
+        sleeps(9, "1&1-1", 0, 0);
         // One alone is no truth yet.
         sleeps(9, "5", 0, 5);
         sleeps(9, "(5)", 0, 5);
@@ -314,6 +378,10 @@ public final class RuleEdgesTest {
         sleeps(9, "8/h", 0, 0);
         sleeps(9, "8/h", 1, 8);
         sleeps(9, "3/0/0*2", 0, 0);
+        due.says("all is worked");
+        sleeps(9, "1|1/0", 0, 1);
+        sleeps(9, "0&1/0", 0, 0);
+        due.says("/ cut toward 0, by 0 is 0");
         // The least long by -1 wraps.
         sleeps(9, "262144*262144*262144*512/-1", 0, 1);
         sleeps(9, "262144*262144*262144*512/-1<0", 0, 1);
@@ -469,6 +537,24 @@ public final class RuleEdgesTest {
                 x.captain(3, 0, 0, 12);
                 due.is("asleep at " + who, x.asleep(7, 0), who);
                 due.is("the lantern of " + who + " of " + n, x.asleep(7, 1), who == n - 1 ? 0 : who + 1);
+            }
+        }
+    }
+
+    private static void shownAsLot() {
+        due.says("3 SHOWN (under LOT): as LOT");
+        WatchSleep x = new WatchSleep();
+        for (int p = 0; p < 9; p++) {
+            x.put(p, 1, 3 * p);
+        }
+        for (int hour : new int[] {0, 1, 2, 3, 4, 5, 6, 7, 998, 999}) {
+            for (int seed : new int[] {0, 5, 999999}) {
+                x.captain(0, 0, 0, seed);
+                int who = x.asleep(hour, 0);
+                due.is("the lantern of LOT in " + hour, x.asleep(hour, 1), who);
+                x.captain(3, 8, 9, seed);
+                due.is("asleep in " + hour, x.asleep(hour, 0), who);
+                due.is("the lantern in " + hour, x.asleep(hour, 1), who == 8 ? 0 : who + 1);
             }
         }
     }

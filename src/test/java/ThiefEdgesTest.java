@@ -20,6 +20,8 @@ public final class ThiefEdgesTest {
         chanceOneAtMost();
         chancesTogether();
         duke();
+        dukeByBest();
+        oneAfterAnother();
         creakBits();
         creakTenths();
         creakNever();
@@ -52,21 +54,24 @@ public final class ThiefEdgesTest {
     }
 
     private static void noWhole() {
-        due.says("WHOLE: all SHARES together (0: NO to all that goes by SHARES).");
         for (int n = 1; n <= 9; n++) {
             int last = n - 1;
             int all = (1 << n) - 1;
-            refusedAsNo("has", n, x -> x.has(last));
+            due.says("TRIES. NO.");
             refusedAsNo("tries", n, x -> x.tries());
+            due.says("KNOWS is THE FRACTION: 1. NO.");
+            refusedAsNo("knows", n, x -> x.knows());
+            due.says("SPY; its DOUBT is THE FRACTION. NO.");
+            refusedAsNo("spy", n, x -> x.spy());
+            due.says("WHOLE: all SHARES together (0: NO to all that goes by SHARES).");
+            refusedAsNo("has", n, x -> x.has(last));
             refusedAsNo("two", n, x -> x.two());
             refusedAsNo("ladder(1)", n, x -> x.ladder(1));
             refusedAsNo("ladder(9)", n, x -> x.ladder(9));
-            refusedAsNo("knows", n, x -> x.knows());
             refusedAsNo("creak of all", n, x -> x.creak(all, 10, 10));
             refusedAsNo("creak of one", n, x -> x.creak(1, 10, 10));
             refusedAsNo("creak of none", n, x -> x.creak(0, 10, 10));
             refusedAsNo("doubt", n, x -> x.doubt(last));
-            refusedAsNo("spy", n, x -> x.spy());
             // What does not go by SHARES is answered.
             Scene.taken(due, "best", Scene.shareless(n), x -> x.best(1), 1);
             Scene.taken(due, "chance", Scene.shareless(n), x -> x.chance(1, last), 1);
@@ -178,6 +183,18 @@ public final class ThiefEdgesTest {
             due.is("none has anything, " + n, x.two(), 1);
             due.fraction("none has anything, " + n, x, "0", "1");
         }
+        due.says("TWO: 10 times the lesser and the other one; what both have is THE FRACTION.");
+        // 31 and 64 are more than all others have: each pair in its turn.
+        for (int lesser = 0; lesser < 9; lesser++) {
+            for (int other = lesser + 1; other < 9; other++) {
+                WatchSleep x = new WatchSleep();
+                for (int p = 0; p < 9; p++) {
+                    x.put(p, 0, p == lesser ? 31 : p == other ? 64 : 1 + p);
+                }
+                due.is("two", x.two(), 10 * lesser + other);
+                due.fraction("two: " + lesser + ", " + other, x, "95", "9");
+            }
+        }
         due.says("NO: one POST alone, too.");
         WatchSleep alone = wall(row(5), row(5));
         alone.has(0);
@@ -206,6 +223,11 @@ public final class ThiefEdgesTest {
         fraction("the last POST", wall(row(1, 1, 2), row(1, 1, 1)), y -> y.ladder(1), 2, 3);
         fraction("one POST alone", wall(row(99), row(7)), y -> y.ladder(9), 99, 1);
         fraction("one of two", wall(row(99, 0), row(1, 1)), y -> y.ladder(9), 99, 512);
+        fraction("one POST alone of WORTH 0, SHARE 1", wall(row(0), row(1)), y -> y.ladder(9), 0, 1);
+        // 99 to the 9th times 0 is less than 5.
+        x = wall(row(5, 0), row(1, 99));
+        x.ladder(9);
+        due.fraction("a WORTH of 0 by the greatest SHARE", x, BigInteger.ONE, BigInteger.TEN.pow(18).divide(BigInteger.valueOf(5)));
     }
 
     private static void knows() {
@@ -315,8 +337,8 @@ public final class ThiefEdgesTest {
                 BigInteger below = BigInteger.ONE;
                 for (int p = 0; p < worths.length; p++) {
                     x.chance(a, p);
-                    BigInteger up = number(x, 0);
-                    BigInteger down = number(x, 1);
+                    BigInteger up = Due.number(x, 0);
+                    BigInteger down = Due.number(x, 1);
                     due.isTrue("1 at most", up.compareTo(down) <= 0);
                     above = above.multiply(down).add(up.multiply(below));
                     below = below.multiply(down);
@@ -324,14 +346,6 @@ public final class ThiefEdgesTest {
                 due.isTrue(a + " together", above.equals(below.multiply(BigInteger.valueOf(a))));
             }
         }
-    }
-
-    private static BigInteger number(WatchSleep x, int which) {
-        BigInteger v = BigInteger.ZERO;
-        for (int i = x.sign(1 + which) - 1; i >= 0; i--) {
-            v = v.shiftLeft(30).add(BigInteger.valueOf(x.limb(which, i)));
-        }
-        return v;
     }
 
     private static void duke() {
@@ -362,10 +376,72 @@ public final class ThiefEdgesTest {
         due.is("2 and 3, 6", x.duke(3), 1);
         due.is("2 and 4, 6: like", x.duke(4), 1);
         due.is("2 and 5, 6", x.duke(5), 2);
+        // Like ones that are no whole numbers: 12 1/2, 18 2/3, 13 1/3 by 2 and by 3.
+        due.is("65/4, 25/2, 25/2, 30", wall(row(3, 3, 10, 30), ones(4)).duke(5), 2);
+        due.is("70/3, 56/3, 56/3, 28", wall(row(5, 7, 20, 28), ones(4)).duke(7), 2);
+        due.is("44/3, 40/3, 40/3, 28", wall(row(28, 14, 8, 7), ones(4)).duke(4), 2);
         WatchSleep rich = Scene.rich(5);
         long before = rich.digest();
         rich.duke(50);
         due.is("duke() leaves THE FRACTION and all", rich.digest(), before);
+    }
+
+    /** For each PAY the least of what best() tells, in fractions that can not be too large. */
+    private static void dukeByBest() {
+        due.says("DUKE: the a (1 .. n) by which BEST, and PAY times (n less a), are least together, of like ones the least.");
+        int[][] walls = {{7, 40, 10, 10, 40}, {60, 20, 60}, {42, 56, 28, 72, 14}, {3, 3, 12, 20}, {3, 3, 15, 15}, {2, 3, 5, 7, 11, 13, 17},
+            {99, 98, 97, 95, 94, 93, 92, 91, 89}, {1, 2, 3, 4, 5, 6, 7, 8, 9}, {97, 89, 83, 79, 73, 71, 67, 61, 59},
+            {0, 0, 19, 23, 29, 31, 37, 41, 43}, {99, 1, 99, 1, 99, 1, 99, 1, 99}, {0, 99}, {13, 17, 19}, {53, 47, 43, 41, 37, 31, 29, 23}};
+        for (int[] worths : walls) {
+            int n = worths.length;
+            WatchSleep x = wall(worths, ones(n));
+            BigInteger[] above = new BigInteger[n + 1];
+            BigInteger[] below = new BigInteger[n + 1];
+            for (int a = 1; a <= n; a++) {
+                x.best(a);
+                above[a] = Due.number(x, 0);
+                below[a] = Due.number(x, 1);
+            }
+            for (int pay = 0; pay <= 99; pay++) {
+                int least = 1;
+                for (int a = 2; a <= n; a++) {
+                    BigInteger now = above[a].add(below[a].multiply(BigInteger.valueOf(pay * (n - a))));
+                    BigInteger was = above[least].add(below[least].multiply(BigInteger.valueOf(pay * (n - least))));
+                    least = now.multiply(below[least]).compareTo(was.multiply(below[a])) < 0 ? a : least;
+                }
+                due.is("duke(" + pay + ") of " + Arrays.toString(worths), x.duke(pay), least);
+            }
+        }
+    }
+
+    /** What a call with large numbers left behind does not tell in a later one with small ones. */
+    private static void oneAfterAnother() {
+        due.says("LADDER is THE FRACTION: 1. BAD; NO.");
+        WatchSleep x = wall(row(99, 98, 3), row(99, 98, 97));
+        x.thefts(0, 40, 40);
+        x.thefts(1, 2, 3);
+        x.thefts(2, 1, 40);
+        for (int l = 9; l >= 1; l--) {
+            due.is("ladder", x.ladder(l), 1);
+            BigInteger up = BigInteger.valueOf(99).pow(l + 1);
+            BigInteger down = BigInteger.valueOf(294).pow(l);
+            due.fraction("ladder(" + l + ") behind a longer one", x, up.divide(up.gcd(down)), down.divide(up.gcd(down)));
+        }
+        due.is("doubt(2)", x.doubt(2), 1);
+        due.is("doubt(0)", x.doubt(0), 1);
+        // 3 times 98^2 times 196, and 98^3, by 294^3: 7 by 27.
+        fraction("doubt(1) behind longer ones", x, y -> y.doubt(1), 7, 27);
+        x.ladder(9);
+        x.put(0, 0, 0);
+        x.put(1, 0, 0);
+        x.put(2, 0, 0);
+        fraction("ladder(9) of nothing behind a longer one", x, y -> y.ladder(9), 0, 1);
+        x.spy();
+        fraction("doubt(1) behind spy()", x, y -> y.doubt(1), 7, 27);
+        x.doubt(0);
+        fraction("knows() behind doubt()", x, y -> y.knows(), 0, 1);
+        x.doubt(2);
+        fraction("best() behind doubt()", x, y -> y.best(3), 0, 1);
     }
 
     private static void creakBits() {

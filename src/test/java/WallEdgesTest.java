@@ -228,6 +228,17 @@ public final class WallEdgesTest {
             fault("posts 3;" + word + " 0 1;", 8);
             fault("posts 3;worth 0 1;" + word + " 0 1;", 18);
         }
+        // Each letter of each word counts.
+        for (String word : new String[] {"posts", "worth", "share", "need"}) {
+            for (int i = 0; i < word.length(); i++) {
+                String other = word.substring(0, i) + (char) (word.charAt(i) - 1) + word.substring(i + 1);
+                if (word.equals("posts")) {
+                    fault(other + " 3;", 0);
+                } else {
+                    fault("posts 3;" + other + " 0 1;", 8);
+                }
+            }
+        }
         fault("Posts 3;", 0);
         fault("posts 3;Worth 0 1;", 8);
         fault("pOsts 3;", 0);
