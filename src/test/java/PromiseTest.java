@@ -61,16 +61,6 @@ public final class PromiseTest {
         due.is(what + ": digest", x.digest(), before);
     }
 
-    private static WatchSleep wall(int[] worths, int[] shares) {
-        WatchSleep x = new WatchSleep();
-        x.posts(worths.length);
-        for (int p = 0; p < worths.length; p++) {
-            x.put(p, 0, worths[p]);
-            x.put(p, 1, shares[p]);
-        }
-        return x;
-    }
-
     private static WatchSleep noShares() {
         WatchSleep x = new WatchSleep();
         x.posts(2);
@@ -493,7 +483,7 @@ public final class PromiseTest {
 
     // 11
     private static void asleep() {
-        WatchSleep x = wall(row(1, 1, 1), row(1, 0, 2));
+        WatchSleep x = Scene.wall(row(1, 1, 1), row(1, 0, 2));
         x.captain(0, 0, 0, 7);
         long draw = 7;
         for (int h = 0; h < 30; h++) {
@@ -535,7 +525,7 @@ public final class PromiseTest {
 
     // 12
     private static void has() {
-        WatchSleep x = wall(row(10, 99, 0, 6), row(3, 2, 4, 0));
+        WatchSleep x = Scene.wall(row(10, 99, 0, 6), row(3, 2, 4, 0));
         due.is("has(0)", x.has(0), 1);
         due.fraction("has(0)", x, "10", "3");
         x.has(1);
@@ -559,12 +549,12 @@ public final class PromiseTest {
     // 13
     private static void tries() {
         due.is("tries: the least of like ones", new WatchSleep().tries(), 0);
-        WatchSleep x = wall(row(10, 20, 30, 99), row(3, 2, 2, 0));
+        WatchSleep x = Scene.wall(row(10, 20, 30, 99), row(3, 2, 2, 0));
         due.is("tries", x.tries(), 2);
         x.put(1, 1, 3);
         due.is("tries: 60 and 60", x.tries(), 1);
         due.fraction("tries leaves the fraction", x, "0", "1");
-        due.is("tries: all worthless", wall(row(0, 0), row(1, 2)).tries(), 0);
+        due.is("tries: all worthless", Scene.wall(row(0, 0), row(1, 2)).tries(), 0);
         x = noShares();
         due.is("tries without shares", x.tries(), -3);
         refusals("tries", x, 0, 1, 0);
@@ -572,7 +562,7 @@ public final class PromiseTest {
 
     // 14
     private static void two() {
-        WatchSleep x = wall(row(10, 20, 30, 99), row(3, 2, 2, 0));
+        WatchSleep x = Scene.wall(row(10, 20, 30, 99), row(3, 2, 2, 0));
         due.is("two", x.two(), 12);
         due.fraction("two", x, "100", "7");
         x.put(0, 0, 20);
@@ -582,8 +572,8 @@ public final class PromiseTest {
         // 60, 60, 60, 0
         due.is("two: the first", x.two(), 1);
         due.fraction("two", x, "15", "1");
-        due.is("two of last posts", wall(row(1, 1, 1, 1, 1, 1, 1, 9, 9), row(1, 1, 1, 1, 1, 1, 1, 1, 1)).two(), 78);
-        x = wall(row(0, 0), row(1, 1));
+        due.is("two of last posts", Scene.wall(row(1, 1, 1, 1, 1, 1, 1, 9, 9), row(1, 1, 1, 1, 1, 1, 1, 1, 1)).two(), 78);
+        x = Scene.wall(row(0, 0), row(1, 1));
         due.is("two worthless", x.two(), 1);
         due.fraction("two worthless", x, "0", "1");
         x.posts(1);
@@ -594,25 +584,25 @@ public final class PromiseTest {
 
     // 15
     private static void ladder() {
-        WatchSleep x = wall(row(10, 20, 30, 0), row(3, 2, 1, 4));
+        WatchSleep x = Scene.wall(row(10, 20, 30, 0), row(3, 2, 1, 4));
         due.is("ladder(1)", x.ladder(1), 1);
         due.fraction("ladder(1)", x, "4", "1");
         x.ladder(2);
         due.fraction("ladder(2)", x, "9", "10");
         x.ladder(9);
         due.fraction("ladder(9)", x, "19683", "100000000");
-        x = wall(row(97, 99, 1), row(97, 99, 1));
+        x = Scene.wall(row(97, 99, 1), row(97, 99, 1));
         x.ladder(9);
         BigInteger above = BigInteger.valueOf(99).pow(10);
         BigInteger below = BigInteger.valueOf(197).pow(9);
         due.fraction("ladder of large ones", x, above, below);
-        x = wall(row(1, 99, 1, 1, 1, 1, 1, 1, 1), row(99, 99, 99, 99, 99, 99, 99, 99, 99));
+        x = Scene.wall(row(1, 99, 1, 1, 1, 1, 1, 1, 1), row(99, 99, 99, 99, 99, 99, 99, 99, 99));
         x.ladder(9);
         due.fraction("ladder in lowest terms", x, "11", "43046721");
-        x = wall(row(99, 99), row(99, 0));
+        x = Scene.wall(row(99, 99), row(99, 0));
         x.ladder(9);
         due.fraction("a sure ladder", x, "99", "1");
-        x = wall(row(0, 7), row(5, 0));
+        x = Scene.wall(row(0, 7), row(5, 0));
         x.ladder(3);
         due.fraction("ladder of nothing", x, "0", "1");
         due.is("ladder(0)", x.ladder(0), -2);
@@ -627,7 +617,7 @@ public final class PromiseTest {
 
     // 16
     private static void knows() {
-        WatchSleep x = wall(row(10, 20, 30, 0), row(3, 2, 1, 4));
+        WatchSleep x = Scene.wall(row(10, 20, 30, 0), row(3, 2, 1, 4));
         due.is("knows", x.knows(), 1);
         due.fraction("knows", x, "6", "1");
         x = new WatchSleep();
@@ -643,7 +633,7 @@ public final class PromiseTest {
 
     // 17
     private static void best() {
-        WatchSleep x = wall(row(10, 20, 30, 0), row(0, 0, 0, 0));
+        WatchSleep x = Scene.wall(row(10, 20, 30, 0), row(0, 0, 0, 0));
         due.is("best(1)", x.best(1), 1);
         due.fraction("best(1)", x, "0", "1");
         x.best(2);
@@ -652,19 +642,19 @@ public final class PromiseTest {
         due.fraction("best(3)", x, "12", "1");
         x.best(4);
         due.fraction("best(4)", x, "30", "1");
-        x = wall(row(7, 7, 7), row(1, 1, 1));
+        x = Scene.wall(row(7, 7, 7), row(1, 1, 1));
         x.best(2);
         due.fraction("best of like ones", x, "14", "3");
         x.best(3);
         due.fraction("best of all", x, "7", "1");
-        x = wall(row(1, 99), row(1, 1));
+        x = Scene.wall(row(1, 99), row(1, 1));
         x.best(1);
         due.fraction("best of 1 and 99", x, "99", "100");
         x.posts(1);
         x.put(0, 0, 42);
         x.best(1);
         due.fraction("best of one", x, "42", "1");
-        x = wall(row(99, 98, 97, 95, 94, 93, 91, 89, 80), row(1, 1, 1, 1, 1, 1, 1, 1, 1));
+        x = Scene.wall(row(99, 98, 97, 95, 94, 93, 91, 89, 80), row(1, 1, 1, 1, 1, 1, 1, 1, 1));
         x.best(8);
         // 8 by all nine inverses is above 80: that post is sure, the others share 7.
         BigInteger product = BigInteger.ONE;
@@ -689,7 +679,7 @@ public final class PromiseTest {
 
     // 18
     private static void chance() {
-        WatchSleep x = wall(row(10, 20, 30, 0, 0), row(0, 0, 0, 0, 0));
+        WatchSleep x = Scene.wall(row(10, 20, 30, 0, 0), row(0, 0, 0, 0, 0));
         String[][] wants = {{"0", "0", "0", "1/2", "1/2"}, {"0", "0", "0", "1", "1"}, {"6/11", "3/11", "2/11", "1", "1"},
             {"1", "3/5", "2/5", "1", "1"}, {"1", "1", "1", "1", "1"}};
         for (int a = 1; a <= 5; a++) {
@@ -701,7 +691,7 @@ public final class PromiseTest {
                     cut < 0 ? "1" : want.substring(cut + 1));
             }
         }
-        x = wall(row(0, 0, 0, 5), row(1, 1, 1, 1));
+        x = Scene.wall(row(0, 0, 0, 5), row(1, 1, 1, 1));
         x.chance(2, 1);
         due.fraction("chance of worthless ones", x, "2", "3");
         x.chance(2, 3);
@@ -715,7 +705,7 @@ public final class PromiseTest {
 
     // 19
     private static void duke() {
-        WatchSleep x = wall(row(10, 20, 30, 0), row(1, 1, 1, 1));
+        WatchSleep x = Scene.wall(row(10, 20, 30, 0), row(1, 1, 1, 1));
         // BEST: 0, 60/11, 12, 30
         due.is("duke(0)", x.duke(0), 1);
         due.is("duke(5)", x.duke(5), 1);
@@ -725,16 +715,16 @@ public final class PromiseTest {
         due.is("duke(18): 30 both", x.duke(18), 3);
         due.is("duke(19)", x.duke(19), 4);
         due.is("duke(99)", x.duke(99), 4);
-        x = wall(row(6, 6, 6), row(1, 1, 1));
+        x = Scene.wall(row(6, 6, 6), row(1, 1, 1));
         due.is("duke: 2, 4, 6 and 2 each are like", x.duke(2), 1);
         due.is("duke(1)", x.duke(1), 1);
         due.is("duke(3)", x.duke(3), 3);
         due.fraction("duke leaves the fraction", x, "0", "1");
-        x = wall(row(3, 4), row(1, 1));
+        x = Scene.wall(row(3, 4), row(1, 1));
         // BEST: 12/7, 4
         due.is("duke: 3 5/7, 4", x.duke(2), 1);
         due.is("duke: 4 5/7, 4", x.duke(3), 2);
-        x = wall(row(2, 3, 5), row(1, 1, 1));
+        x = Scene.wall(row(2, 3, 5), row(1, 1, 1));
         // BEST: 30/31, 60/31, 5
         due.is("duke: 2 30/31, 2 29/31, 5", x.duke(1), 2);
         x.posts(1);
@@ -747,7 +737,7 @@ public final class PromiseTest {
 
     // 20
     private static void creak() {
-        WatchSleep x = wall(row(1, 1, 1), row(1, 2, 5));
+        WatchSleep x = Scene.wall(row(1, 1, 1), row(1, 2, 5));
         due.is("creak", x.creak(3, 8, 1), 1);
         due.fraction("creak: 24 of 29", x, "24", "29");
         x.creak(7, 1, 10);
@@ -1008,7 +998,7 @@ public final class PromiseTest {
 
     // 31
     private static void doubt() {
-        WatchSleep x = wall(row(1, 1, 1), row(2, 1, 0));
+        WatchSleep x = Scene.wall(row(1, 1, 1), row(2, 1, 0));
         due.is("doubt", x.doubt(0), 1);
         due.fraction("doubt of nothing", x, "1", "1");
         x.thefts(0, 2, 3);
@@ -1031,11 +1021,11 @@ public final class PromiseTest {
         x.thefts(1, 3, 4);
         x.doubt(1);
         due.fraction("doubt in lowest terms", x, "1", "9");
-        WatchSleep sure = wall(row(1, 1), row(99, 0));
+        WatchSleep sure = Scene.wall(row(1, 1), row(99, 0));
         sure.thefts(0, 40, 40);
         sure.doubt(0);
         due.fraction("doubt of a sure one", sure, "1", "1");
-        WatchSleep large = wall(row(1, 1, 1, 1, 1, 1, 1, 1, 1), row(99, 98, 99, 99, 99, 99, 99, 99, 99));
+        WatchSleep large = Scene.wall(row(1, 1, 1, 1, 1, 1, 1, 1, 1), row(99, 98, 99, 99, 99, 99, 99, 99, 99));
         large.thefts(1, 40, 40);
         large.doubt(1);
         BigInteger common = BigInteger.valueOf(2).pow(40);
@@ -1060,7 +1050,7 @@ public final class PromiseTest {
 
     // 32
     private static void spy() {
-        WatchSleep x = wall(row(1, 1, 1), row(2, 1, 1));
+        WatchSleep x = Scene.wall(row(1, 1, 1), row(2, 1, 1));
         due.is("spy: the least of like ones", x.spy(), 0);
         due.fraction("spy: nothing told", x, "1", "1");
         x.thefts(0, 2, 2);
@@ -1121,7 +1111,7 @@ public final class PromiseTest {
     }
 
     private static WatchSleep full() {
-        WatchSleep x = wall(row(1, 2, 3, 4), row(5, 6, 7, 8));
+        WatchSleep x = Scene.wall(row(1, 2, 3, 4), row(5, 6, 7, 8));
         x.put(2, 2, 3);
         x.captain(3, 2, 7, 1234);
         Due.write(x, "l+1");

@@ -60,6 +60,17 @@ final class Scene {
         return x;
     }
 
+    /** As many POSTS as there are WORTHS and SHARES. */
+    static WatchSleep wall(int[] worths, int[] shares) {
+        WatchSleep x = new WatchSleep();
+        x.posts(worths.length);
+        for (int p = 0; p < worths.length; p++) {
+            x.put(p, 0, worths[p]);
+            x.put(p, 1, shares[p]);
+        }
+        return x;
+    }
+
     /** Eight bytes a call, so that an object stays far below its 512 calls. */
     static void typeLong(WatchSleep x, String text) {
         x.clear();

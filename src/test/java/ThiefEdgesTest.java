@@ -28,16 +28,6 @@ public final class ThiefEdgesTest {
         due.end();
     }
 
-    private static WatchSleep wall(int[] worths, int[] shares) {
-        WatchSleep x = new WatchSleep();
-        x.posts(worths.length);
-        for (int p = 0; p < worths.length; p++) {
-            x.put(p, 0, worths[p]);
-            x.put(p, 1, shares[p]);
-        }
-        return x;
-    }
-
     private static int[] row(int... values) {
         return values;
     }
@@ -112,7 +102,7 @@ public final class ThiefEdgesTest {
         due.says("a SHARE (0 .. 99; 1 at first)");
         int[] most = new int[9];
         Arrays.fill(most, 99);
-        WatchSleep x = wall(most, most);
+        WatchSleep x = Scene.wall(most, most);
         fraction("has of 99 by 891", x, y -> y.has(8), 11, 1);
         fraction("knows of 99", x, y -> y.knows(), 88, 1);
         Scene.taken(due, "two", x, y -> y.two(), 1);
@@ -130,11 +120,11 @@ public final class ThiefEdgesTest {
 
     private static void has() {
         due.says("its SHARE by WHOLE times its WORTH");
-        WatchSleep x = wall(row(0, 99, 1, 50), row(99, 1, 0, 0));
+        WatchSleep x = Scene.wall(row(0, 99, 1, 50), row(99, 1, 0, 0));
         fraction("WORTH 0", x, y -> y.has(0), 0, 1);
         fraction("1 by 100 of 99", x, y -> y.has(1), 99, 100);
         fraction("SHARE 0", x, y -> y.has(2), 0, 1);
-        x = wall(row(99), row(99));
+        x = Scene.wall(row(99), row(99));
         fraction("one POST alone", x, y -> y.has(0), 99, 1);
     }
 
@@ -154,10 +144,10 @@ public final class ThiefEdgesTest {
             due.is("none has anything, " + n, x.tries(), 0);
         }
         // 2 times 3 and 3 times 2 are like, 7 times 1 is more.
-        due.is("6, 6", wall(row(1, 2, 3), row(1, 3, 2)).tries(), 1);
-        due.is("6, 7", wall(row(1, 2, 7), row(1, 3, 1)).tries(), 2);
-        due.is("6, 5", wall(row(1, 2, 5), row(1, 3, 1)).tries(), 1);
-        due.is("the dearest without a SHARE", wall(row(99, 1), row(0, 1)).tries(), 1);
+        due.is("6, 6", Scene.wall(row(1, 2, 3), row(1, 3, 2)).tries(), 1);
+        due.is("6, 7", Scene.wall(row(1, 2, 7), row(1, 3, 1)).tries(), 2);
+        due.is("6, 5", Scene.wall(row(1, 2, 5), row(1, 3, 1)).tries(), 1);
+        due.is("the dearest without a SHARE", Scene.wall(row(99, 1), row(0, 1)).tries(), 1);
         WatchSleep x = Scene.rich(4);
         long before = x.digest();
         x.tries();
@@ -196,7 +186,7 @@ public final class ThiefEdgesTest {
             }
         }
         due.says("NO: one POST alone, too.");
-        WatchSleep alone = wall(row(5), row(5));
+        WatchSleep alone = Scene.wall(row(5), row(5));
         alone.has(0);
         long before = alone.digest();
         due.is("two of one", alone.two(), -3);
@@ -213,30 +203,30 @@ public final class ThiefEdgesTest {
 
     private static void ladder() {
         due.says("LADDER of L HOURS (1 .. 9): the most that can be had, if one has to sleep at that POST in L HOURS together");
-        WatchSleep x = wall(row(4, 9), row(3, 2));
+        WatchSleep x = Scene.wall(row(4, 9), row(3, 2));
         // 12 and 18 by 5; 36 and 36 by 25; 108 and 72 by 125.
         fraction("ladder(1)", x, y -> y.ladder(1), 18, 5);
         fraction("ladder(2)", x, y -> y.ladder(2), 36, 25);
         fraction("ladder(3)", x, y -> y.ladder(3), 108, 125);
         fraction("ladder(9)", x, y -> y.ladder(9), 78732, 1953125);
-        fraction("nothing to be had", wall(row(0, 9), row(3, 0)), y -> y.ladder(9), 0, 1);
-        fraction("the last POST", wall(row(1, 1, 2), row(1, 1, 1)), y -> y.ladder(1), 2, 3);
-        fraction("one POST alone", wall(row(99), row(7)), y -> y.ladder(9), 99, 1);
-        fraction("one of two", wall(row(99, 0), row(1, 1)), y -> y.ladder(9), 99, 512);
-        fraction("one POST alone of WORTH 0, SHARE 1", wall(row(0), row(1)), y -> y.ladder(9), 0, 1);
+        fraction("nothing to be had", Scene.wall(row(0, 9), row(3, 0)), y -> y.ladder(9), 0, 1);
+        fraction("the last POST", Scene.wall(row(1, 1, 2), row(1, 1, 1)), y -> y.ladder(1), 2, 3);
+        fraction("one POST alone", Scene.wall(row(99), row(7)), y -> y.ladder(9), 99, 1);
+        fraction("one of two", Scene.wall(row(99, 0), row(1, 1)), y -> y.ladder(9), 99, 512);
+        fraction("one POST alone of WORTH 0, SHARE 1", Scene.wall(row(0), row(1)), y -> y.ladder(9), 0, 1);
         // 99 to the 9th times 0 is less than 5.
-        x = wall(row(5, 0), row(1, 99));
+        x = Scene.wall(row(5, 0), row(1, 99));
         x.ladder(9);
         due.fraction("a WORTH of 0 by the greatest SHARE", x, BigInteger.ONE, BigInteger.TEN.pow(18).divide(BigInteger.valueOf(5)));
     }
 
     private static void knows() {
         due.says("KNOWS: what it is worth to be told, each time, who sleeps");
-        fraction("one POST alone", wall(row(99), row(7)), x -> x.knows(), 0, 1);
-        fraction("one who sleeps alone", wall(row(1, 99, 5), row(0, 3, 0)), x -> x.knows(), 0, 1);
-        fraction("nothing to be had", wall(row(0, 0), row(1, 2)), x -> x.knows(), 0, 1);
-        fraction("two like ones", wall(row(6, 6), row(1, 1)), x -> x.knows(), 3, 1);
-        fraction("others", wall(row(6, 3, 1), row(1, 2, 4)), x -> x.knows(), 10, 7);
+        fraction("one POST alone", Scene.wall(row(99), row(7)), x -> x.knows(), 0, 1);
+        fraction("one who sleeps alone", Scene.wall(row(1, 99, 5), row(0, 3, 0)), x -> x.knows(), 0, 1);
+        fraction("nothing to be had", Scene.wall(row(0, 0), row(1, 2)), x -> x.knows(), 0, 1);
+        fraction("two like ones", Scene.wall(row(6, 6), row(1, 1)), x -> x.knows(), 3, 1);
+        fraction("others", Scene.wall(row(6, 3, 1), row(1, 2, 4)), x -> x.knows(), 10, 7);
     }
 
     private static void best() {
@@ -247,34 +237,34 @@ public final class ThiefEdgesTest {
                 worths[p] = 11 * (p + 1);
             }
             int all = n;
-            WatchSleep x = wall(worths, ones(n));
+            WatchSleep x = Scene.wall(worths, ones(n));
             fraction("all " + n + " asleep: the greatest WORTH", x, y -> y.best(all), 11L * n, 1);
             Arrays.fill(worths, 99);
-            x = wall(worths, ones(n));
+            x = Scene.wall(worths, ones(n));
             for (int a = 1; a <= n; a++) {
                 int some = a;
                 fraction(a + " of " + n + " like ones", x, y -> y.best(some), 99L * a / gcd(99L * a, n), n / gcd(99L * a, n));
             }
             Arrays.fill(worths, 0);
-            x = wall(worths, ones(n));
+            x = Scene.wall(worths, ones(n));
             fraction("all worthless, one asleep", x, y -> y.best(1), 0, 1);
             fraction("all worthless, all asleep", x, y -> y.best(all), 0, 1);
         }
         // As many worthless ones as sleep, and one fewer.
-        WatchSleep x = wall(row(0, 5, 0, 7), row(1, 1, 1, 1));
+        WatchSleep x = Scene.wall(row(0, 5, 0, 7), row(1, 1, 1, 1));
         fraction("2 asleep, 2 worthless", x, y -> y.best(2), 0, 1);
         fraction("3 asleep, 2 worthless", x, y -> y.best(3), 35, 12);
         fraction("4 asleep", x, y -> y.best(4), 7, 1);
         // 2 by (1, 1 by 9, 1 by 9) is 18 by 11, above 1: the first is sure, the others share 1.
-        x = wall(row(1, 9, 9), row(1, 1, 1));
+        x = Scene.wall(row(1, 9, 9), row(1, 1, 1));
         fraction("1 asleep of 1, 9, 9", x, y -> y.best(1), 9, 11);
         fraction("2 asleep of 1, 9, 9: one is sure", x, y -> y.best(2), 9, 2);
         // v comes to the WORTH of the least one exactly: 2 by (1 by 2, 1 by 4, 1 by 4) is 2.
-        x = wall(row(2, 4, 4), row(1, 1, 1));
+        x = Scene.wall(row(2, 4, 4), row(1, 1, 1));
         fraction("2 asleep of 2, 4, 4: just sure", x, y -> y.best(2), 2, 1);
         fraction("of just sure ones the chance is 1", x, y -> y.chance(2, 0), 1, 1);
         fraction("the others share the rest", x, y -> y.chance(2, 1), 1, 2);
-        x = wall(row(99, 98, 97, 95, 94, 93, 92, 91, 89), ones(9));
+        x = Scene.wall(row(99, 98, 97, 95, 94, 93, 92, 91, 89), ones(9));
         BigInteger product = BigInteger.ONE;
         BigInteger sum = BigInteger.ZERO;
         for (int worth : row(99, 98, 97, 95, 94, 93, 92, 91, 89)) {
@@ -290,7 +280,7 @@ public final class ThiefEdgesTest {
 
     private static void chanceOfWorthless() {
         due.says("if there are a POSTS of WORTH 0 at least: a by how many these are for each of these, 0 for others (v is 0)");
-        WatchSleep x = wall(row(0, 5, 0, 0), row(1, 1, 1, 1));
+        WatchSleep x = Scene.wall(row(0, 5, 0, 0), row(1, 1, 1, 1));
         for (int p : row(0, 2, 3)) {
             fraction("1 of 3 worthless", x, y -> y.chance(1, p), 1, 3);
             fraction("2 of 3 worthless", x, y -> y.chance(2, p), 2, 3);
@@ -301,12 +291,12 @@ public final class ThiefEdgesTest {
         fraction("another, as many asleep as are worthless", x, y -> y.chance(3, 1), 0, 1);
         due.says("else 1 for those of WORTH 0, v by WORTH for others, 1 at most.");
         fraction("another, one more asleep than are worthless", x, y -> y.chance(4, 1), 1, 1);
-        x = wall(row(0, 5, 0, 7), row(1, 1, 1, 1));
+        x = Scene.wall(row(0, 5, 0, 7), row(1, 1, 1, 1));
         fraction("a worthless one, 3 asleep", x, y -> y.chance(3, 0), 1, 1);
         fraction("5 by 35/12", x, y -> y.chance(3, 1), 7, 12);
         fraction("7 by 35/12", x, y -> y.chance(3, 3), 5, 12);
         for (int n = 1; n <= 9; n++) {
-            x = wall(new int[n], ones(n));
+            x = Scene.wall(new int[n], ones(n));
             for (int a = 1; a <= n; a++) {
                 int some = a;
                 fraction(a + " of " + n + ", all worthless", x, y -> y.chance(some, 0), a / gcd(a, n), n / gcd(a, n));
@@ -316,7 +306,7 @@ public final class ThiefEdgesTest {
 
     private static void chanceOneAtMost() {
         due.says("v by WORTH for others, 1 at most");
-        WatchSleep x = wall(row(1, 9, 9), row(1, 1, 1));
+        WatchSleep x = Scene.wall(row(1, 9, 9), row(1, 1, 1));
         fraction("v by WORTH is 9 by 2", x, y -> y.chance(2, 0), 1, 1);
         fraction("v by WORTH is 1 by 2", x, y -> y.chance(2, 1), 1, 2);
         fraction("v by WORTH is 9 by 11", x, y -> y.chance(1, 0), 9, 11);
@@ -331,7 +321,7 @@ public final class ThiefEdgesTest {
         int[][] walls = {{1}, {0, 99}, {1, 99, 50}, {0, 0, 1, 2, 3}, {7, 7, 7, 7}, {1, 2, 4, 8, 16, 32, 64, 96, 99},
             {99, 1, 99, 1, 99, 1, 99, 1, 99}, {0, 0, 0, 0, 0, 0, 0, 0, 1}};
         for (int[] worths : walls) {
-            WatchSleep x = wall(worths, ones(worths.length));
+            WatchSleep x = Scene.wall(worths, ones(worths.length));
             for (int a = 1; a <= worths.length; a++) {
                 BigInteger above = BigInteger.ZERO;
                 BigInteger below = BigInteger.ONE;
@@ -352,34 +342,34 @@ public final class ThiefEdgesTest {
         due.says("DUKE: the a (1 .. n) by which BEST, and PAY times (n less a), are least together, of like ones the least.");
         for (int n = 1; n <= 9; n++) {
             int[] worths = new int[n];
-            WatchSleep x = wall(worths, ones(n));
+            WatchSleep x = Scene.wall(worths, ones(n));
             due.is("worthless, PAY 0: all like, " + n, x.duke(0), 1);
             due.is("worthless, PAY 1, " + n, x.duke(1), n);
             due.is("worthless, PAY 99, " + n, x.duke(99), n);
             Arrays.fill(worths, n);
             // BEST is a: with PAY 1 it is n by each.
-            x = wall(worths, ones(n));
+            x = Scene.wall(worths, ones(n));
             due.is("PAY 0, " + n, x.duke(0), 1);
             due.is("PAY 1: all like, " + n, x.duke(1), 1);
             due.is("PAY 2, " + n, x.duke(2), n);
         }
-        WatchSleep x = wall(row(99, 99), row(1, 1));
+        WatchSleep x = Scene.wall(row(99, 99), row(1, 1));
         due.is("49 1/2 and 49, 99", x.duke(49), 1);
         due.is("49 1/2 and 50, 99", x.duke(50), 2);
         // One worthless, BEST is 0, 1, 2 by 1, 2, 3 asleep.
-        x = wall(row(0, 2, 2), row(1, 1, 1));
+        x = Scene.wall(row(0, 2, 2), row(1, 1, 1));
         due.is("0 and 2, 1 and 1, 2: like", x.duke(1), 1);
         due.is("0, 1, 2", x.duke(0), 1);
         due.is("0 and 4, 1 and 2, 2", x.duke(2), 3);
         // BEST of 3, 6: 2, 6.
-        x = wall(row(3, 6), row(1, 1));
+        x = Scene.wall(row(3, 6), row(1, 1));
         due.is("2 and 3, 6", x.duke(3), 1);
         due.is("2 and 4, 6: like", x.duke(4), 1);
         due.is("2 and 5, 6", x.duke(5), 2);
         // Like ones that are no whole numbers: 12 1/2, 18 2/3, 13 1/3 by 2 and by 3.
-        due.is("65/4, 25/2, 25/2, 30", wall(row(3, 3, 10, 30), ones(4)).duke(5), 2);
-        due.is("70/3, 56/3, 56/3, 28", wall(row(5, 7, 20, 28), ones(4)).duke(7), 2);
-        due.is("44/3, 40/3, 40/3, 28", wall(row(28, 14, 8, 7), ones(4)).duke(4), 2);
+        due.is("65/4, 25/2, 25/2, 30", Scene.wall(row(3, 3, 10, 30), ones(4)).duke(5), 2);
+        due.is("70/3, 56/3, 56/3, 28", Scene.wall(row(5, 7, 20, 28), ones(4)).duke(7), 2);
+        due.is("44/3, 40/3, 40/3, 28", Scene.wall(row(28, 14, 8, 7), ones(4)).duke(4), 2);
         WatchSleep rich = Scene.rich(5);
         long before = rich.digest();
         rich.duke(50);
@@ -394,7 +384,7 @@ public final class ThiefEdgesTest {
             {0, 0, 19, 23, 29, 31, 37, 41, 43}, {99, 1, 99, 1, 99, 1, 99, 1, 99}, {0, 99}, {13, 17, 19}, {53, 47, 43, 41, 37, 31, 29, 23}};
         for (int[] worths : walls) {
             int n = worths.length;
-            WatchSleep x = wall(worths, ones(n));
+            WatchSleep x = Scene.wall(worths, ones(n));
             BigInteger[] above = new BigInteger[n + 1];
             BigInteger[] below = new BigInteger[n + 1];
             for (int a = 1; a <= n; a++) {
@@ -417,7 +407,7 @@ public final class ThiefEdgesTest {
     /** What a call with large numbers left behind does not tell in a later one with small ones. */
     private static void oneAfterAnother() {
         due.says("LADDER is THE FRACTION: 1. BAD; NO.");
-        WatchSleep x = wall(row(99, 98, 3), row(99, 98, 97));
+        WatchSleep x = Scene.wall(row(99, 98, 3), row(99, 98, 97));
         x.thefts(0, 40, 40);
         x.thefts(1, 2, 3);
         x.thefts(2, 1, 40);
@@ -465,7 +455,7 @@ public final class ThiefEdgesTest {
 
     private static void creakTenths() {
         due.says("(of all HOURS in which he does it is heard by u of 10, of all in which he does not by v of 10: 0 .. 10)");
-        WatchSleep x = wall(row(1, 1), row(1, 3));
+        WatchSleep x = Scene.wall(row(1, 1), row(1, 3));
         fraction("u 10, v 0", x, y -> y.creak(1, 10, 0), 1, 1);
         fraction("u 10, v 10", x, y -> y.creak(1, 10, 10), 1, 4);
         fraction("u 0, v 10", x, y -> y.creak(1, 0, 10), 0, 1);
