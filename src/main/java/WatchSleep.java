@@ -1083,6 +1083,9 @@ public final class WatchSleep {
             long parts = 1;
             for (int a = 1; a <= w.n; a++) {
                 solve(w, a);
+                if (below < 1) {
+                    return least;
+                }
                 long unitsNow = above / below + pay * (w.n - a);
                 long restNow = above % below;
                 boolean less = unitsNow < units || unitsNow == units && isLess(restNow, below, rest, parts);

@@ -24,6 +24,9 @@ public final class FormTest {
         "int sight(int,int,int)", "int blind()", "int rounds(int)", "int soon(int)", "int thefts(int,int,int)",
         "int doubt(int)", "int spy()", "int sign(int)", "int limb(int,int)", "int image(int)", "int from(int)",
         "int status(int)", "int count(int)", "long digest()"};
+    /** What the interface says, and the call that it says it ahead of. */
+    private static final String[][] PARTS = {{"a wall", "posts"}, {"thieves", "has"}, {"nights", "nights"},
+        {"what was seen", "sight"}, {"what there is", "sign"}};
     private static final Due due = new Due("FormTest");
 
     public static void main(String[] args) throws IOException {
@@ -142,8 +145,29 @@ public final class FormTest {
         }
         Set<String> allowed = new TreeSet<>(Arrays.asList("Math.max", "Math.min", "Math.abs", "System.arraycopy"));
         due.isTrue("library calls " + library, allowed.containsAll(library));
+        parts(source);
         objects(code);
         lengths(source);
+    }
+
+    /** The calls stand in the order of the document, under the words that it tells. */
+    private static void parts(String source) {
+        List<String> wanted = new ArrayList<>();
+        for (String form : FACE) {
+            String name = form.substring(form.indexOf(' ') + 1, form.indexOf('('));
+            for (String[] part : PARTS) {
+                if (part[1].equals(name)) {
+                    wanted.add("---- " + part[0]);
+                }
+            }
+            wanted.add(name);
+        }
+        List<String> found = new ArrayList<>();
+        Matcher m = Pattern.compile("(?m)^    (?:// (---- .*)|public (?:int|long) (\\w+)\\(.*)$").matcher(source);
+        while (m.find()) {
+            found.add(m.group(1) != null ? m.group(1) : m.group(2));
+        }
+        due.isTrue("the parts are " + found + ", due is " + wanted, found.equals(wanted));
     }
 
     /** All is made with the object: a call makes nothing. */
